@@ -1,0 +1,28 @@
+/** Counts the answers that are not the ones that are due, and ends a test with them. */
+final class Checks {
+    private int wrong = 0;
+
+    void due(String call, Object got, Object want) {
+        if (!want.equals(got)) {
+            wrong++;
+            System.out.println(call + " answered " + got + ", due is " + want);
+        }
+    }
+
+    void dueThrows(String call, Class<? extends RuntimeException> want, Runnable run) {
+        Object got = "no exception";
+        try {
+            run.run();
+        } catch (RuntimeException e) {
+            got = e.getClass();
+        }
+        due(call, got, want);
+    }
+
+    void end() {
+        System.out.println(wrong == 0 ? "all answers are as due" : wrong + " answers are not as due");
+        if (wrong != 0) {
+            System.exit(1);
+        }
+    }
+}
