@@ -127,7 +127,13 @@ public final class LineCodes {
     }
 
     public int read() {
-        return reader.readStrip();
+        boolean readable = reader.isReadable(false);
+        if (!readable) {
+            strip.reverse();
+            readable = reader.isReadable(true);
+            strip.reverse();
+        }
+        return readable ? reader.toldCount() : NONE;
     }
 
     public int sign(int i) {
@@ -196,12 +202,8 @@ public final class LineCodes {
             return more <= items.length - count;
         }
 
-        boolean isInside(int i) {
-            return i >= 0 && i < count && i < items.length;
-        }
-
         int at(int i) {
-            return isInside(i) ? items[i] : NONE;
+            return i >= 0 && i < count && i < items.length ? items[i] : NONE;
         }
 
         boolean add(int item) {
@@ -214,7 +216,7 @@ public final class LineCodes {
         }
 
         int replace(int i, int item) {
-            if (!isInside(i)) {
+            if (i < 0 || i >= count || i >= items.length) {
                 return NONE;
             }
             int old = items[i];
@@ -304,7 +306,7 @@ public final class LineCodes {
         }
     }
 
-    /** The widths of symbols and figures, in modules, each row of widths as a number read figure by figure. */
+    /** The widths of symbols and figures, in modules, written as numbers figure by figure. */
     private static final class Widths {
         static final int HIGHEST_UNIT = 1000000;
         static final int WIDEST = 4;
@@ -411,7 +413,7 @@ public final class LineCodes {
         }
     }
 
-    /** Finds the row of a text: from its end on what the rest costs in each set, then forward the least symbols. */
+    /** Finds the row of a text: from its end on what the rest costs in each set, then forward the row. */
     private static final class Packer {
         private static final int FAR = 1000000;
 
@@ -549,7 +551,7 @@ public final class LineCodes {
 
     /** Reads a strip and keeps what it told. */
     private static final class Reader {
-        /** A strip of 800 has room for 133 symbols, 130 of them between the first one and the check symbol, in C two signs each. */
+        /** A strip has room for 130 symbols between the first one and the check symbol, in C two signs each. */
         private static final int MOST_TOLD = 260;
         private static final int THIRTEEN_WIDTHS = 59;
         private static final int THIRTEEN_MODULES = 95;
@@ -572,6 +574,10 @@ public final class LineCodes {
             shifted = false;
         }
 
+        int toldCount() {
+            return told.count();
+        }
+
         int toldAt(int i) {
             return told.at(i);
         }
@@ -580,19 +586,15 @@ public final class LineCodes {
             return fromBack;
         }
 
-        int readStrip() {
-            if (isReadFrom(false) || isReadFrom(true)) {
-                return told.count();
+        /** Reads the strip as it lies, turned for this or not; when it is nothing so, nothing was read. */
+        boolean isReadable(boolean turned) {
+            told.empty();
+            boolean readable = strip.count() == THIRTEEN_WIDTHS ? isThirteen() : isRow();
+            if (!readable) {
+                told.empty();
             }
-            told.empty();
-            fromBack = false;
-            return NONE;
-        }
-
-        private boolean isReadFrom(boolean back) {
-            fromBack = back;
-            told.empty();
-            return strip.count() == THIRTEEN_WIDTHS ? isThirteen() : isRow();
+            fromBack = readable && turned;
+            return readable;
         }
 
         private boolean isThirteen() {
@@ -618,7 +620,7 @@ public final class LineCodes {
             told.add(NONE);
             int turns = 0;
             for (int i = 0; i < Figures.HALF; i++) {
-                int widths = figureCounts(LEFT_HALF, i);
+                int widths = figureCountsAt(LEFT_HALF + Widths.FIGURE_SIZE * i);
                 int figure = Widths.figureWith(widths);
                 boolean turned = figure == NONE;
                 if (turned) {
@@ -637,7 +639,7 @@ public final class LineCodes {
 
         private boolean isRightHalf() {
             for (int i = 0; i < Figures.HALF; i++) {
-                int figure = Widths.figureWith(figureCounts(RIGHT_HALF, i));
+                int figure = Widths.figureWith(figureCountsAt(RIGHT_HALF + Widths.FIGURE_SIZE * i));
                 if (figure == NONE) {
                     return false;
                 }
@@ -646,18 +648,10 @@ public final class LineCodes {
             return true;
         }
 
-        private int figureCounts(int half, int i) {
-            int from = half + Widths.FIGURE_SIZE * i;
-            return ownCountsOf(from, Widths.FIGURE_SIZE, Widths.FIGURE_MODULES);
-        }
-
         private boolean isRow() {
             int lastFrom = strip.count() - Widths.LAST_SIZE;
             int before = lastFrom / Widths.SYMBOL_SIZE;
-            if (before < 2 || lastFrom != before * Widths.SYMBOL_SIZE) {
-                return false;
-            }
-            if (ownCountsOf(lastFrom, Widths.LAST_SIZE, Widths.LAST_MODULES) != Widths.LAST) {
+            if (before < 2 || lastFrom != before * Widths.SYMBOL_SIZE || !isLastAt(lastFrom)) {
                 return false;
             }
             int first = symbolAt(0);
@@ -668,19 +662,14 @@ public final class LineCodes {
             shifted = false;
             int sum = first;
             for (int i = 1; i < before - 1; i++) {
-                int symbol = symbolAt(i);
+                int symbol = symbolAt(Widths.SYMBOL_SIZE * i);
                 if (symbol == NONE || !isTold(symbol)) {
                     return false;
                 }
                 sum += i * symbol;
             }
             // The check symbol tells nothing, so a shift can't wait for it.
-            return !shifted && symbolAt(before - 1) == sum % Sets.CHECK_MODULUS;
-        }
-
-        private int symbolAt(int i) {
-            int from = Widths.SYMBOL_SIZE * i;
-            return Widths.symbolWith(ownCountsOf(from, Widths.SYMBOL_SIZE, Widths.SYMBOL_MODULES));
+            return !shifted && symbolAt(lastFrom - Widths.SYMBOL_SIZE) == sum % Sets.CHECK_MODULUS;
         }
 
         /** Tells what a symbol tells, or changes the set by it; false when it can't stand here. */
@@ -714,20 +703,27 @@ public final class LineCodes {
             return true;
         }
 
-        private int widthAt(int i) {
-            return strip.at(fromBack ? strip.count() - 1 - i : i);
+        private int figureCountsAt(int from) {
+            int sum = sumOf(from, Widths.FIGURE_SIZE);
+            return countsOf(from, Widths.FIGURE_SIZE, Widths.FIGURE_MODULES, sum);
+        }
+
+        private int symbolAt(int from) {
+            int sum = sumOf(from, Widths.SYMBOL_SIZE);
+            return Widths.symbolWith(countsOf(from, Widths.SYMBOL_SIZE, Widths.SYMBOL_MODULES, sum));
+        }
+
+        private boolean isLastAt(int from) {
+            int sum = sumOf(from, Widths.LAST_SIZE);
+            return countsOf(from, Widths.LAST_SIZE, Widths.LAST_MODULES, sum) == Widths.LAST;
         }
 
         private int sumOf(int from, int size) {
             int sum = 0;
             for (int i = 0; i < size; i++) {
-                sum += widthAt(from + i);
+                sum += strip.at(from + i);
             }
             return sum;
-        }
-
-        private int ownCountsOf(int from, int size, int modules) {
-            return countsOf(from, size, modules, sumOf(from, size));
         }
 
         /** What some widths count as, figure by figure; 0 when one counts as what no width of a code is. */
@@ -738,7 +734,7 @@ public final class LineCodes {
             int counts = 0;
             for (int i = 0; i < size; i++) {
                 // Half a sum more before the division brings the nearest, of two such the greater one.
-                int count = (2 * modules * widthAt(from + i) + sum) / (2 * sum);
+                int count = (2 * modules * strip.at(from + i) + sum) / (2 * sum);
                 if (count < 1 || count > Widths.WIDEST) {
                     return 0;
                 }

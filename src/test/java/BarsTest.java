@@ -1,3 +1,4 @@
+import java.util.Arrays;
 import java.util.List;
 
 /** Promise 6. */
@@ -55,7 +56,7 @@ public final class BarsTest {
         int[] wrong = {0, -1, 51, Integer.MIN_VALUE, Integer.MAX_VALUE};
         LineCodes x = Codes.withStrip(7, 8, 9);
         for (int module : wrong) {
-            CHECKS.dueThrows("bars(" + module + ") without a row", IllegalArgumentException.class, () -> x.bars(module));
+            CHECKS.dueThrows("bars(" + module + "), no row", IllegalArgumentException.class, () -> x.bars(module));
         }
         CHECKS.dueThrows("bars(1) without a row", IllegalStateException.class, () -> x.bars(1));
         x.pack();
@@ -67,7 +68,7 @@ public final class BarsTest {
 
     private static void theOldStripGoes() {
         int[] full = new int[800];
-        java.util.Arrays.fill(full, 1);
+        Arrays.fill(full, 1);
         LineCodes x = Codes.withStrip(full);
         x.pack();
         dueStrip(x, 3);

@@ -1,8 +1,6 @@
 import java.util.ArrayList;
-import java.util.HashSet;
 import java.util.List;
 import java.util.Random;
-import java.util.Set;
 
 /** Promises 4 and 5. */
 public final class PackTest {
@@ -41,6 +39,11 @@ public final class PackTest {
         dueRow(Codes.signsOf("99"), 105, 99);
         dueRow(Codes.signsOf("123"), 103, 17, 18, 19);
         dueRow(Codes.signsOf("1234"), 105, 12, 34);
+        // The signs next to the figures are none.
+        dueRow(Codes.signsOf("1:"), 103, 17, 26);
+        dueRow(Codes.signsOf(":1"), 103, 26, 17);
+        dueRow(Codes.signsOf("1/"), 103, 17, 15);
+        dueRow(Codes.signsOf("/1"), 103, 15, 17);
         dueRow(new int[] {Codes.MARK}, 103, 102);
         dueRow(new int[] {0, 31, 32, 95}, 103, 64, 95, 0, 63);
         dueRow(new int[] {32, 95, 96, 127}, 104, 0, 63, 64, 95);
@@ -114,84 +117,7 @@ public final class PackTest {
             int[] alphabet = alphabets[round % alphabets.length];
             int[] text = random.ints(random.nextInt(round < 2700 ? 14 : 65), 0, alphabet.length)
                 .map(i -> alphabet[i]).toArray();
-            dueRow(text, new Search(text).leastRow());
-        }
-    }
-
-    /** Tries rows symbol by symbol from the least one on, under a growing limit of their number. */
-    private static final class Search {
-        private final int[] text;
-        private final List<Integer> row = new ArrayList<>();
-        private Set<Integer> dead;
-
-        Search(int[] text) {
-            this.text = text;
-        }
-
-        int[] leastRow() {
-            for (int limit = 0; ; limit++) {
-                dead = new HashSet<>();
-                for (int first = 103; first <= 105; first++) {
-                    row.clear();
-                    row.add(first);
-                    if (reaches(0, "ABC".charAt(first - 103), limit)) {
-                        return row.stream().mapToInt(i -> i).toArray();
-                    }
-                }
-            }
-        }
-
-        /** Small letters are A and B for the one symbol behind a shift. */
-        private boolean reaches(int place, char set, int limit) {
-            if (place == text.length && Character.isUpperCase(set)) {
-                return true;
-            }
-            int state = (place * 128 + set) * 256 + limit;
-            if (limit == 0 || dead.contains(state)) {
-                return false;
-            }
-            for (int symbol = 0; symbol <= 102; symbol++) {
-                row.add(symbol);
-                if (goesOn(place, set, symbol, limit - 1)) {
-                    return true;
-                }
-                row.remove(row.size() - 1);
-            }
-            dead.add(state);
-            return false;
-        }
-
-        private boolean goesOn(int place, char set, int symbol, int limit) {
-            if (set == 'a' || set == 'b') {
-                char back = set == 'a' ? 'B' : 'A';
-                return symbol <= 95 && tells(place, signIn(Character.toUpperCase(set), symbol))
-                    && reaches(place + 1, back, limit);
-            }
-            if (symbol == 102) {
-                return tells(place, Codes.MARK) && reaches(place + 1, set, limit);
-            }
-            if (set == 'C' && symbol <= 99) {
-                return tells(place, '0' + symbol / 10) && tells(place + 1, '0' + symbol % 10)
-                    && reaches(place + 2, set, limit);
-            }
-            if (symbol <= 95) {
-                return tells(place, signIn(set, symbol)) && reaches(place + 1, set, limit);
-            }
-            return switch (symbol) {
-                case 98 -> reaches(place, set == 'A' ? 'b' : 'a', limit);
-                case 99 -> reaches(place, 'C', limit);
-                case 100 -> set != 'B' && reaches(place, 'B', limit);
-                case 101 -> set != 'A' && reaches(place, 'A', limit);
-                default -> false;
-            };
-        }
-
-        private static int signIn(char set, int symbol) {
-            return set == 'A' && symbol >= 64 ? symbol - 64 : symbol + 32;
-        }
-
-        private boolean tells(int place, int sign) {
-            return place < text.length && text[place] == sign;
+            dueRow(text, new RowSearch(text).leastRow());
         }
     }
 }
