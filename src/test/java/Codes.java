@@ -61,6 +61,12 @@ final class Codes {
         return widths.chars().map(c -> (c - '0') * module).toArray();
     }
 
+    static int[] ones(int count) {
+        int[] ones = new int[count];
+        Arrays.fill(ones, 1);
+        return ones;
+    }
+
     static int[] turned(int[] widths) {
         int[] other = new int[widths.length];
         for (int i = 0; i < widths.length; i++) {
