@@ -15,11 +15,12 @@ public final class CountEdgesTest {
     private static int refused = 0;
 
     public static void main(String[] args) {
-        CHECKS.sentence("of two such the greater one");
+        CHECKS.sentence("the whole number that is nearest to w n / S, of two such the greater one");
         symbols();
         theLastSeven();
         figures();
         sidesAndMiddle();
+        countsOfTwoFigures();
         theWidestOfAll();
         CHECKS.due("many are taken", taken > 10000, true);
         CHECKS.due("many are refused", refused > 10000, true);
@@ -128,9 +129,10 @@ public final class CountEdgesTest {
     }
 
     private static void theLastSeven() {
+        int[] ahead = drawn(104, 65, Codes.checkOf(104, 65));
         for (int times : TIMES) {
             for (int more = 0; more < 13; more++) {
-                dueAtEdges("2331112", 13 * times + more, 1, part -> joined(drawn(104, 65, Codes.checkOf(104, 65)), part));
+                dueAtEdges("2331112", 13 * times + more, 1, part -> joined(ahead, part));
             }
         }
     }
@@ -190,6 +192,18 @@ public final class CountEdgesTest {
                     due(zeros(sum, place, least - 1), part -> part, -1);
                     due(zeros(sum, place, greatest + 1), part -> part, -1);
                 }
+            }
+        }
+    }
+
+    private static void countsOfTwoFigures() {
+        CHECKS.sentence("the first three, the last three and the five in the middle all count as 1");
+        // 0, 11, 1 and 1, 0, 11 are no three times 1, though they would look so if they were written in a row.
+        for (int from : new int[] {0, 29, 56}) {
+            for (int[] three : new int[][] {{1, 121, 10}, {10, 1, 121}}) {
+                int[] strip = Codes.scaled(Codes.thirteen("0000000000000", "000000000000"), 10);
+                System.arraycopy(three, 0, strip, from, 3);
+                due(strip, part -> part, -1);
             }
         }
     }

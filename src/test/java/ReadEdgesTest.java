@@ -87,6 +87,14 @@ public final class ReadEdgesTest {
         full[799] = 1;
         CHECKS.due("read() of 800", Codes.withStrip(full).read(), -1);
         CHECKS.due("read() of 800, turned", Codes.withStrip(Codes.turned(full)).read(), -1);
+        // Up to six widths more, at any place: with six it is as long as a row, but none.
+        String row = Codes.closed(B, 65, 66);
+        for (int place = 0; place <= row.length(); place++) {
+            for (int more = 1; more <= 6; more++) {
+                String longer = row.substring(0, place) + "1".repeat(more) + row.substring(place);
+                CHECKS.due("read() with " + more + " more at " + place, Codes.withStrip(drawn(longer)).read(), -1);
+            }
+        }
     }
 
     private static void fiftyNineWidths() {
@@ -124,7 +132,7 @@ public final class ReadEdgesTest {
         dueRow(symbols(A, 63), 95);
         dueRow(symbols(A, 64), 0);
         dueRow(symbols(A, 95), 31);
-        CHECKS.sentence("What isn't named here can't stand in a row (96 and 97 in A .., 101 in A, 103 to 106 elsewhere)");
+        CHECKS.sentence("What isn't named here can't stand in a row (96 and 97 in A, 101 in A, 103 to 106)");
         dueNoRow(A, 96);
         dueNoRow(A, 97);
         dueRow(symbols(A, 98, 0), 32);
@@ -143,7 +151,7 @@ public final class ReadEdgesTest {
         dueRow(symbols(B, 63), 95);
         dueRow(symbols(B, 64), 96);
         dueRow(symbols(B, 95), 127);
-        CHECKS.sentence("What isn't named here can't stand in a row (96 and 97 in .. B, 100 in B, 103 to 106 elsewhere)");
+        CHECKS.sentence("What isn't named here can't stand in a row (96 and 97 in B, 100 in B, 103 to 106)");
         dueNoRow(B, 96);
         dueNoRow(B, 97);
         dueRow(symbols(B, 98, 64), 0);
@@ -318,6 +326,17 @@ public final class ReadEdgesTest {
             CHECKS.due("read() of the mended strip", x.read(), 2);
             CHECKS.due("sign(1) then", x.sign(1), (int) 'b');
             CHECKS.due("backwards() then", x.backwards(), back);
+        }
+        // Nor does a row that was refused in the midst of its symbols, in another set, leave anything to the next one.
+        LineCodes x = new LineCodes();
+        for (int[] refused : new int[][] {symbols(A, 65, 98), symbols(C, 12, 105), symbols(B, 98, 102)}) {
+            for (int first = A; first <= C; first++) {
+                Codes.fillStrip(x, drawn(Codes.closed(refused)));
+                CHECKS.due("read() of a refused row", x.read(), -1);
+                Codes.fillStrip(x, drawn(Codes.closed(first, 64)));
+                CHECKS.due("read() of the next row", x.read(), first == C ? 2 : 1);
+                CHECKS.due("its sign", x.sign(0), first == A ? 0 : first == B ? 96 : 54);
+            }
         }
     }
 
